@@ -103,6 +103,23 @@ public final class ListTest {
         Check.due(x, "scatter", x.move(100, 2, 1, false), 5, 0);
         Check.bytes(x, 49, 0, 2, 3, 4, 0);
         Check.bytes(x, 59, 0, 5, 6, 0);
+        GuestCalls y = Check.told("line 200;fill 0 1 2 3 4 5 6 7 8;");
+        int[] starts = {50, 99, 60, 70, 80};
+        int[] sizes = {2, 0, 1, 3, 1};
+        for (int i = 0; i < 5; i++) {
+            buffer(y, 100 + 8 * i, starts[i], sizes[i]);
+        }
+        Check.due(y, "scatter over five", y.move(100, 5, 1, false), 7, 0);
+        Check.bytes(y, 49, 0, 2, 3, 0);
+        Check.bytes(y, 59, 0, 4, 0);
+        Check.bytes(y, 69, 0, 5, 6, 7, 0);
+        Check.bytes(y, 79, 0, 8, 0);
+        Check.due(y, "gather from five", y.move(100, 5, 20, true), 7, 0);
+        Check.bytes(y, 20, 2, 3, 4, 5, 6, 7, 8, 0);
+        Check.due(y, "none moved", y.move(100, 0, 20, true), 0, 0);
+        buffer(y, 100, 3, 1);
+        Check.due(y, "a single byte", y.move(100, 1, 30, true), 1, 0);
+        Check.bytes(y, 30, 4, 0);
     }
 
     private static void overlaps() {

@@ -6,6 +6,7 @@ public final class TextTest {
         goodTexts();
         syntax();
         tokens();
+        tapeEnds();
         room();
         tokenRoom();
         twiceAndWrong();
@@ -128,6 +129,26 @@ public final class TextTest {
         fault("big;{", 1, 4);
         fault("fill 1 2:", 1, 8);
         fault("fill 1 2/", 1, 8);
+        fault("form az zz;", 1, 8);
+        fault("form zebra int;", 0, -1);
+    }
+
+    // What lay behind the tape's end, or beyond its room, is no part of the text.
+    private static void tapeEnds() {
+        GuestCalls x = new GuestCalls();
+        Check.lay(x, "big;bigx 1234");
+        x.back(6);
+        Check.due("read", x.read(), 1);
+        Check.due("place", x.place(), 7);
+        Check.lay(x, "line 1234");
+        x.back(2);
+        Check.due("read", x.read(), 1);
+        Check.due("place", x.place(), 7);
+        String blanks = " ".repeat(1993);
+        fault(blanks + "big;big", 1, 2000);
+        fault(blanks + "line 12", 1, 2000);
+        fault(blanks + "  big; ", 0, -1);
+        fault(blanks + "   big;", 0, -1);
     }
 
     private static void room() {
@@ -168,6 +189,7 @@ public final class TextTest {
         fault(bigs.substring(8) + "form a int 3;", 2, 804);
         fault(bigs.substring(8) + "form a int;", 0, -1);
         fault("line 0;" + bigs, 2, 802);
+        fault("line 4;" + bigs.substring(12) + "form a int 3;", 2, 806);
     }
 
     private static void twiceAndWrong() {
@@ -239,6 +261,7 @@ public final class TextTest {
         Check.due("register", x.register(2), 0);
         Check.due("restore", x.restore(0), false);
         Check.due("form a is gone", x.layout(0, true, 0, 0), 1);
+        Check.bytes(x, 0, 0, 0, 0, 0);
         Check.due("form b is gone", x.layout(1, true, 0, 0), -1);
         Check.due(x, "the bin is empty", x.length(0), -1, 3);
         Check.due("read of nothing", x.read(), 0);
