@@ -40,7 +40,6 @@ public final class GuestCalls {
     private static final int EMPTY_BIN = 11;
 
     private static final int WORD = 8;
-    private static final int THING = 9;
     private static final int PUT_NOTHING = 10;
     private static final int BLANK = -2;
 
@@ -828,7 +827,7 @@ public final class GuestCalls {
         }
     }
 
-    /** A BIN: each CELL of its ROW has a content (a KIND, WORD, THING, BLANK) and a number for it. */
+    /** A BIN: each CELL of its ROW has a content (what box() tells of it) and a number for it. */
     private static final class Bin {
         int sort = EMPTY_BIN;
         int cells;

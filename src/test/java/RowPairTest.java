@@ -12,43 +12,29 @@ public final class RowPairTest {
         Check.end("RowPairTest");
     }
 
-    private static void fill(GuestCalls x, int b, int sort, int... values) {
-        x.bin(b, sort, values.length);
-        for (int i = 0; i < values.length; i++) {
-            x.put(b, i, sort, values[i]);
-        }
-    }
-
-    private static void holds(GuestCalls x, int b, int... values) {
-        Check.due("length of " + b, x.length(b), values.length);
-        for (int i = 0; i < values.length; i++) {
-            Check.due("cell " + i + " of " + b, x.box(b, i, 1), values[i]);
-        }
-    }
-
     private static void copies() {
         GuestCalls x = new GuestCalls();
-        fill(x, 0, 3, 1, 2, 3, 4, 5);
+        Check.row(x, 0, 3, 1, 2, 3, 4, 5);
         x.bin(1, 5, 5);
         Check.due(x, "copy", x.copy(0, 1, 1, 0, 3, 4), 3, 0);
-        holds(x, 1, 2, 3, 4, 0, 0);
+        Check.holds(x, 1, 2, 3, 4, 0, 0);
         Check.due(x, "copy of none", x.copy(0, 9, 1, 9, 0, 4), 0, 0);
         Check.due(x, "copy of none from nothing", x.copy(5, 0, 6, 0, 0, 4), 0, 0);
         // one by one: what is copied already is copied on
         Check.due(x, "copy within", x.copy(0, 0, 0, 1, 4, 3), 4, 0);
-        holds(x, 0, 1, 1, 1, 1, 1);
+        Check.holds(x, 0, 1, 1, 1, 1, 1);
         x.bin(2, 5, 1);
         x.write(2, 0, 5, 16777217);
         x.bin(3, 7, 1);
         Check.due(x, "copy as float", x.copy(2, 0, 3, 0, 1, 6), 1, 0);
         Check.due("a rounded float", x.cell(3, 0, 7), 16777216);
-        fill(x, 4, 3, 7, 8, 9);
+        Check.row(x, 4, 3, 7, 8, 9);
         Check.due(x, "copy from below", x.copy(4, -2, 1, 0, 5, 3), 3, 1);
-        holds(x, 1, 2, 3, 7, 8, 9);
+        Check.holds(x, 1, 2, 3, 7, 8, 9);
         Check.due(x, "copy to below", x.copy(4, 0, 1, -1, 3, 3), 2, 1);
-        holds(x, 1, 8, 9, 7, 8, 9);
+        Check.holds(x, 1, 8, 9, 7, 8, 9);
         Check.due(x, "copy to beyond", x.copy(4, 0, 1, 4, 3, 3), 1, 1);
-        holds(x, 1, 8, 9, 7, 8, 7);
+        Check.holds(x, 1, 8, 9, 7, 8, 7);
         Check.due(x, "copy far", x.copy(4, Integer.MAX_VALUE, 1, 0, 40, 3), 0, 1);
         Check.due(x, "copy far", x.copy(4, 0, 1, Integer.MAX_VALUE - 1, 3, 3), 0, 1);
         Check.due(x, "copy far", x.copy(4, Integer.MIN_VALUE, 1, 0, 3, 3), 0, 1);
@@ -56,7 +42,7 @@ public final class RowPairTest {
 
     private static void copyRefusals() {
         GuestCalls x = new GuestCalls();
-        fill(x, 0, 4, 1, 2);
+        Check.row(x, 0, 4, 1, 2);
         x.bin(1, 10, 0);
         x.bin(2, 8, 3);
         x.bin(3, 3, 3);
@@ -78,33 +64,33 @@ public final class RowPairTest {
             x.length(7);
             Check.due(x, "no such copy", x.copy(b[0], 0, b[1], 0, b[2], b[3]), -1, 0);
         }
-        holds(x, 0, 1, 2);
+        Check.holds(x, 0, 1, 2);
     }
 
     private static void pastes() {
         GuestCalls x = new GuestCalls();
-        fill(x, 0, 4, 1, 2, 3, 4, 5);
+        Check.row(x, 0, 4, 1, 2, 3, 4, 5);
         Check.due(x, "paste up", x.paste(0, 0, 0, 1, 4), true, 0);
-        holds(x, 0, 1, 1, 2, 3, 4);
+        Check.holds(x, 0, 1, 1, 2, 3, 4);
         Check.due(x, "paste down", x.paste(0, 1, 0, 0, 4), true, 0);
-        holds(x, 0, 1, 2, 3, 4, 4);
-        fill(x, 1, 4, 0, 0, 0);
+        Check.holds(x, 0, 1, 2, 3, 4, 4);
+        Check.row(x, 1, 4, 0, 0, 0);
         Check.due(x, "paste", x.paste(0, 2, 1, 1, 2), true, 0);
-        holds(x, 1, 0, 3, 4);
+        Check.holds(x, 1, 0, 3, 4);
         Check.due(x, "paste none at the end", x.paste(0, 5, 1, 3, 0), true, 0);
-        fill(x, 2, 0, 1, 0, 1);
+        Check.row(x, 2, 0, 1, 0, 1);
         x.bin(3, 0, 3);
         Check.due(x, "paste flags", x.paste(2, 0, 3, 0, 3), true, 0);
-        holds(x, 3, 1, 0, 1);
+        Check.holds(x, 3, 1, 0, 1);
     }
 
     private static void pasteRefusals() {
         GuestCalls x = new GuestCalls();
-        fill(x, 0, 4, 1, 2, 3);
-        fill(x, 1, 5, 7, 8, 9);
+        Check.row(x, 0, 4, 1, 2, 3);
+        Check.row(x, 1, 5, 7, 8, 9);
         x.bin(2, 10, 0);
         x.bin(3, 8, 3);
-        fill(x, 4, 4, 5, 6);
+        Check.row(x, 4, 4, 5, 6);
         Check.due(x, "nothing and the thing", x.paste(2, 0, 7, 0, 1), false, 3);
         Check.due(x, "the thing and nothing", x.paste(7, 0, 2, 0, 1), false, 3);
         Check.due(x, "the thing", x.paste(2, 0, 0, 0, 9), false, 2);
@@ -122,8 +108,8 @@ public final class RowPairTest {
         Check.due(x, "i far", x.paste(0, Integer.MAX_VALUE, 4, 0, 2), false, 1);
         Check.due(x, "n least", x.paste(0, 0, 4, 0, Integer.MIN_VALUE), false, 1);
         Check.due(x, "none beyond the end", x.paste(0, 4, 4, 0, 0), false, 1);
-        holds(x, 0, 1, 2, 3);
-        holds(x, 4, 5, 6);
+        Check.holds(x, 0, 1, 2, 3);
+        Check.holds(x, 4, 5, 6);
         x.length(7);
         Check.due(x, "paste(8)", x.paste(8, 0, 0, 0, 0), false, 0);
         x.length(7);
@@ -157,20 +143,20 @@ public final class RowPairTest {
 
     private static void unlikeNumbers() {
         GuestCalls x = new GuestCalls();
-        fill(x, 0, 4, 1, -2, 3);
-        fill(x, 1, 7, 1, -2, 3);
+        Check.row(x, 0, 4, 1, -2, 3);
+        Check.row(x, 1, 7, 1, -2, 3);
         Check.due(x, "int and double", x.unlike(0, 1), -1, 0);
         x.write(1, 2, 7, 4);
         Check.due(x, "another one", x.unlike(0, 1), 2, 0);
-        fill(x, 2, 1, 1, -2);
+        Check.row(x, 2, 1, 1, -2);
         Check.due(x, "one lacks", x.unlike(2, 0), 2, 0);
         Check.due(x, "other lacks", x.unlike(0, 2), 2, 0);
-        fill(x, 3, 0, 1);
-        fill(x, 4, 1, 1);
+        Check.row(x, 3, 0, 1);
+        Check.row(x, 4, 1, 1);
         Check.due(x, "flag and byte", x.unlike(3, 4), 0, 0);
-        fill(x, 4, 0, 1);
+        Check.row(x, 4, 0, 1);
         Check.due(x, "flags", x.unlike(3, 4), -1, 0);
-        fill(x, 4, 0, 0);
+        Check.row(x, 4, 0, 0);
         Check.due(x, "other flags", x.unlike(3, 4), 0, 0);
         x.bin(5, 5, 1);
         x.bin(6, 5, 1);
@@ -201,7 +187,7 @@ public final class RowPairTest {
                 Check.due(x, "unlike " + a + " " + b, x.unlike(0, 1), a == b || bothOne ? -1 : 0, 0);
             }
         }
-        fill(x, 2, 4, 1);
+        Check.row(x, 2, 4, 1);
         x.put(0, 0, 3, 1);
         Check.due(x, "a box and a number", x.unlike(0, 2), -1, 0);
         x.bin(3, 9, 1);

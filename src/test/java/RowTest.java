@@ -136,7 +136,7 @@ public final class RowTest {
         float[] floats = {0f, -0f, 0.5f, -0.5f, 1.99f, -1.99f, 1e10f, -1e18f, 1e19f, -1e19f, Float.MIN_VALUE,
             Float.MIN_NORMAL, Float.MAX_VALUE, Float.POSITIVE_INFINITY, Float.NEGATIVE_INFINITY, 9.223372e18f};
         for (float f : floats) {
-            layBits(x, Float.floatToRawIntBits(f), 4);
+            Check.bits(x, 0, Float.floatToRawIntBits(f), 4);
             Check.due(x, "load " + f, x.load(0, 0, 0), 1, 0);
             Check.due("told " + f, x.cell(0, 0, 6), (long) f);
             Check.due("told as double " + f, x.cell(0, 0, 7), (long) (double) f);
@@ -151,15 +151,9 @@ public final class RowTest {
         double[] doubles = {0.0, -0.0, 0.99, -7.9, 4503599627370497.5, 9007199254740993.0, 9.2e18, -9.2e18, 9.3e18,
             -9.3e18, Double.MIN_VALUE, Double.MAX_VALUE, Double.POSITIVE_INFINITY, Double.NEGATIVE_INFINITY};
         for (double d : doubles) {
-            layBits(x, Double.doubleToRawLongBits(d), 8);
+            Check.bits(x, 0, Double.doubleToRawLongBits(d), 8);
             Check.due(x, "load " + d, x.load(1, 0, 1), 1, 0);
             Check.due("told " + d, x.cell(1, 0, 7), (long) d);
-        }
-    }
-
-    private static void layBits(GuestCalls x, long bits, int n) {
-        for (int i = 0; i < n; i++) {
-            x.poke(i, (int) (bits >>> 8 * i));
         }
     }
 

@@ -59,78 +59,69 @@ public final class TextTest {
         Check.due("big", x.count(2), 1);
     }
 
-    private static void fault(String text, int fault, int place) {
-        GuestCalls x = new GuestCalls();
-        Check.lay(x, text);
-        Check.due("tape of " + text, x.count(5), text.length());
-        Check.due("read() of " + text, x.read(), fault);
-        Check.due("place() of " + text, x.place(), place);
-        Check.due("tape behind " + text, x.count(5), 0);
-    }
-
     private static void goodTexts() {
-        fault("", 0, -1);
-        fault(" \t\n\r", 0, -1);
-        fault("big;", 0, -1);
-        fault("big ; big;line 1;line 256;", 0, -1);
-        fault("form abcdefgh flag4byte 1char short int long float double;", 0, -1);
-        fault("form bigx quad ptr;form b quad;", 0, -1);
-        fault("fill0 0;fill 255 255;fill 0000 0001 ;", 0, -1);
-        fault("fill 240 1 2 3 4 5 6 7 8 9 10 11 12 13 14 15 16;", 0, -1);
+        Check.fault("", 0, -1);
+        Check.fault(" \t\n\r", 0, -1);
+        Check.fault("big;", 0, -1);
+        Check.fault("big ; big;line 1;line 256;", 0, -1);
+        Check.fault("form abcdefgh flag4byte 1char short int long float double;", 0, -1);
+        Check.fault("form bigx quad ptr;form b quad;", 0, -1);
+        Check.fault("fill0 0;fill 255 255;fill 0000 0001 ;", 0, -1);
+        Check.fault("fill 240 1 2 3 4 5 6 7 8 9 10 11 12 13 14 15 16;", 0, -1);
         GuestCalls x = Check.told("line 7;line 9;fill 8 1 2;fill 9 3;");
         Check.due("the last line", x.count(1), 9);
         Check.bytes(x, 7, 0, 1, 3, 0);
     }
 
     private static void syntax() {
-        fault("x", 1, 0);
-        fault(" ;", 1, 1);
-        fault("big", 1, 3);
-        fault("big  ", 1, 5);
-        fault("big big;", 1, 4);
-        fault("bigline;", 1, 0);
-        fault("line;", 1, 4);
-        fault("line 5", 1, 6);
-        fault("line 5 6;", 1, 7);
-        fault("line x;", 1, 5);
-        fault("form;", 1, 4);
-        fault("form a;", 1, 6);
-        fault("form a 1;", 1, 7);
-        fault("form big int;", 1, 5);
-        fault("form flag int;", 1, 5);
-        fault("form fill int;", 1, 5);
-        fault("form a int 1 2;", 1, 13);
-        fault("form a int b;", 1, 11);
-        fault("form a int line 2;", 1, 11);
-        fault("form a int", 1, 10);
-        fault("form a int 2", 1, 12);
-        fault("fill 3;", 1, 6);
-        fault("fill;", 1, 4);
-        fault("fill 1 2", 1, 8);
-        fault("fill 1 a;", 1, 7);
-        fault("7;", 1, 0);
-        fault("int;", 1, 0);
-        fault("big;ptr;", 1, 4);
+        Check.fault("x", 1, 0);
+        Check.fault(" ;", 1, 1);
+        Check.fault("big", 1, 3);
+        Check.fault("big  ", 1, 5);
+        Check.fault("big big;", 1, 4);
+        Check.fault("bigline;", 1, 0);
+        Check.fault("line;", 1, 4);
+        Check.fault("line 5", 1, 6);
+        Check.fault("line 5 6;", 1, 7);
+        Check.fault("line x;", 1, 5);
+        Check.fault("form;", 1, 4);
+        Check.fault("form a;", 1, 6);
+        Check.fault("form a 1;", 1, 7);
+        Check.fault("form big int;", 1, 5);
+        Check.fault("form flag int;", 1, 5);
+        Check.fault("form fill int;", 1, 5);
+        Check.fault("form a int 1 2;", 1, 13);
+        Check.fault("form a int b;", 1, 11);
+        Check.fault("form a int line 2;", 1, 11);
+        Check.fault("form a int", 1, 10);
+        Check.fault("form a int 2", 1, 12);
+        Check.fault("fill 3;", 1, 6);
+        Check.fault("fill;", 1, 4);
+        Check.fault("fill 1 2", 1, 8);
+        Check.fault("fill 1 a;", 1, 7);
+        Check.fault("7;", 1, 0);
+        Check.fault("int;", 1, 0);
+        Check.fault("big;ptr;", 1, 4);
     }
 
     private static void tokens() {
-        fault("form abcdefghi int;", 1, 5);
-        fault("form A int;", 1, 5);
-        fault("form a_b int;", 1, 6);
-        fault("line 00012;", 1, 5);
-        fault("line 0012;", 0, -1);
-        fault("line -1;", 1, 5);
-        fault("big:", 1, 3);
-        fault("big;" + (char) 0, 1, 4);
-        fault("big;" + (char) 255, 1, 4);
-        fault("big;" + (char) 160, 1, 4);
-        fault("big;" + (char) 11, 1, 4);
-        fault("big;" + (char) 96, 1, 4);
-        fault("big;{", 1, 4);
-        fault("fill 1 2:", 1, 8);
-        fault("fill 1 2/", 1, 8);
-        fault("form az zz;", 1, 8);
-        fault("form zebra int;", 0, -1);
+        Check.fault("form abcdefghi int;", 1, 5);
+        Check.fault("form A int;", 1, 5);
+        Check.fault("form a_b int;", 1, 6);
+        Check.fault("line 00012;", 1, 5);
+        Check.fault("line 0012;", 0, -1);
+        Check.fault("line -1;", 1, 5);
+        Check.fault("big:", 1, 3);
+        Check.fault("big;" + (char) 0, 1, 4);
+        Check.fault("big;" + (char) 255, 1, 4);
+        Check.fault("big;" + (char) 160, 1, 4);
+        Check.fault("big;" + (char) 11, 1, 4);
+        Check.fault("big;" + (char) 96, 1, 4);
+        Check.fault("big;{", 1, 4);
+        Check.fault("fill 1 2:", 1, 8);
+        Check.fault("fill 1 2/", 1, 8);
+        Check.fault("form az zz;", 1, 8);
+        Check.fault("form zebra int;", 0, -1);
     }
 
     // What lay behind the tape's end, or beyond its room, is no part of the text.
@@ -145,27 +136,27 @@ public final class TextTest {
         Check.due("read", x.read(), 1);
         Check.due("place", x.place(), 7);
         String blanks = " ".repeat(1993);
-        fault(blanks + "big;big", 1, 2000);
-        fault(blanks + "line 12", 1, 2000);
-        fault(blanks + "  big; ", 0, -1);
-        fault(blanks + "   big;", 0, -1);
+        Check.fault(blanks + "big;big", 1, 2000);
+        Check.fault(blanks + "line 12", 1, 2000);
+        Check.fault(blanks + "  big; ", 0, -1);
+        Check.fault(blanks + "   big;", 0, -1);
     }
 
     private static void room() {
         String five = "form a int;form b int;form c int;form d int;form e int;";
-        fault(five + "form f int;", 0, -1);
-        fault(five + "form f int; form g int;", 2, five.length() + 12);
-        fault(five + "form f int; form ;", 2, five.length() + 12);
-        fault(five + "form f int; form", 2, five.length() + 12);
-        fault("form a int int int int int int int int;", 0, -1);
-        fault("form a int int int int int int int int ptr;", 2, 39);
-        fault("form a int 4 int int int int int int int 4 x", 1, 43);
-        fault("form a int 4 int int int int int int int 4 int 9", 2, 43);
-        fault("fill 0 1 2 3 4 5 6 7 8 9 0 1 2 3 4 5 6 ;", 0, -1);
-        fault("fill 0 1 2 3 4 5 6 7 8 9 0 1 2 3 4 5 6 7;", 2, 39);
+        Check.fault(five + "form f int;", 0, -1);
+        Check.fault(five + "form f int; form g int;", 2, five.length() + 12);
+        Check.fault(five + "form f int; form ;", 2, five.length() + 12);
+        Check.fault(five + "form f int; form", 2, five.length() + 12);
+        Check.fault("form a int int int int int int int int;", 0, -1);
+        Check.fault("form a int int int int int int int int ptr;", 2, 39);
+        Check.fault("form a int 4 int int int int int int int 4 x", 1, 43);
+        Check.fault("form a int 4 int int int int int int int 4 int 9", 2, 43);
+        Check.fault("fill 0 1 2 3 4 5 6 7 8 9 0 1 2 3 4 5 6 ;", 0, -1);
+        Check.fault("fill 0 1 2 3 4 5 6 7 8 9 0 1 2 3 4 5 6 7;", 2, 39);
         // a space too many goes ahead of what is wrong further on the left
-        fault("line 0;fill 0 1 2 3 4 5 6 7 8 9 0 1 2 3 4 5 6 7;", 2, 46);
-        fault("line 0;fill 999 256 x", 1, 20);
+        Check.fault("line 0;fill 0 1 2 3 4 5 6 7 8 9 0 1 2 3 4 5 6 7;", 2, 46);
+        Check.fault("line 0;fill 999 256 x", 1, 20);
     }
 
     private static void tokenRoom() {
@@ -173,45 +164,45 @@ public final class TextTest {
         for (int i = 0; i < 200; i++) {
             bigs.append("big;");
         }
-        fault(bigs.toString(), 0, -1);
-        fault(bigs + "big;", 2, 800);
-        fault(bigs + "  line 5;", 2, 802);
-        fault(bigs + "int", 1, 800);
-        fault(bigs + "A", 1, 800);
-        fault(bigs + "   ", 0, -1);
+        Check.fault(bigs.toString(), 0, -1);
+        Check.fault(bigs + "big;", 2, 800);
+        Check.fault(bigs + "  line 5;", 2, 802);
+        Check.fault(bigs + "int", 1, 800);
+        Check.fault(bigs + "A", 1, 800);
+        Check.fault(bigs + "   ", 0, -1);
         String most = bigs.substring(4);
-        fault(most + "line 4;", 2, 802);
-        fault(most + "line 4 4", 1, 803);
-        fault(most + "line 4", 1, 802);
-        fault(most + "fill 4 4;", 2, 803);
-        fault(most + "form a int;", 2, 803);
-        fault(most + "form a;", 1, 802);
-        fault(bigs.substring(8) + "form a int 3;", 2, 804);
-        fault(bigs.substring(8) + "form a int;", 0, -1);
-        fault("line 0;" + bigs, 2, 802);
-        fault("line 4;" + bigs.substring(12) + "form a int 3;", 2, 806);
+        Check.fault(most + "line 4;", 2, 802);
+        Check.fault(most + "line 4 4", 1, 803);
+        Check.fault(most + "line 4", 1, 802);
+        Check.fault(most + "fill 4 4;", 2, 803);
+        Check.fault(most + "form a int;", 2, 803);
+        Check.fault(most + "form a;", 1, 802);
+        Check.fault(bigs.substring(8) + "form a int 3;", 2, 804);
+        Check.fault(bigs.substring(8) + "form a int;", 0, -1);
+        Check.fault("line 0;" + bigs, 2, 802);
+        Check.fault("line 4;" + bigs.substring(12) + "form a int 3;", 2, 806);
     }
 
     private static void twiceAndWrong() {
-        fault("form a int;form b int;form a int;", 3, 27);
-        fault("form a int;form a int 5;", 3, 16);
-        fault("form a int 5;form a int;", 5, 11);
-        fault("form a int;form aa int;", 0, -1);
-        fault("line 0;", 5, 5);
-        fault("line 257;", 5, 5);
-        fault("line 257;line 3;", 5, 5);
-        fault("line 9999;", 5, 5);
-        fault("form a int 0;", 5, 11);
-        fault("form a int 5;", 5, 11);
-        fault("form a int 4 byte 9999;", 5, 18);
-        fault("fill 256 1;", 5, 5);
-        fault("fill 255 1 1;", 5, 11);
-        fault("fill 255 1;", 0, -1);
-        fault("fill 250 1 2 3 4 5 6 7 8;", 5, 21);
-        fault("fill 3 256;", 5, 7);
-        fault("fill 3 255 0 256;", 5, 13);
-        fault("line 300;form a int;form a int;", 5, 5);
-        fault("fill 0 1;line 0;big", 1, 19);
+        Check.fault("form a int;form b int;form a int;", 3, 27);
+        Check.fault("form a int;form a int 5;", 3, 16);
+        Check.fault("form a int 5;form a int;", 5, 11);
+        Check.fault("form a int;form aa int;", 0, -1);
+        Check.fault("line 0;", 5, 5);
+        Check.fault("line 257;", 5, 5);
+        Check.fault("line 257;line 3;", 5, 5);
+        Check.fault("line 9999;", 5, 5);
+        Check.fault("form a int 0;", 5, 11);
+        Check.fault("form a int 5;", 5, 11);
+        Check.fault("form a int 4 byte 9999;", 5, 18);
+        Check.fault("fill 256 1;", 5, 5);
+        Check.fault("fill 255 1 1;", 5, 11);
+        Check.fault("fill 255 1;", 0, -1);
+        Check.fault("fill 250 1 2 3 4 5 6 7 8;", 5, 21);
+        Check.fault("fill 3 256;", 5, 7);
+        Check.fault("fill 3 255 0 256;", 5, 13);
+        Check.fault("line 300;form a int;form a int;", 5, 5);
+        Check.fault("fill 0 1;line 0;big", 1, 19);
     }
 
     private static void faultsChangeNothing() {
