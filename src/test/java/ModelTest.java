@@ -1,7 +1,10 @@
 /** Long runs of mixed calls on the class and on the model side by side: every answer is the same. */
 public final class ModelTest {
-    private static final int RUNS = 2000;
-    private static final int CALLS = 450;
+    private static final int RUNS = 8000;
+    // An object answers for 512 calls. The steps end at this one, so that the last of them, a long text at most,
+    // and the look at the end have room too.
+    private static final int STEPS_END = 300;
+    private static final int MOST_CALLS = 512;
     private static final String[] WORDS = {"flag", "byte", "char", "short", "int", "long", "float", "double", "quad",
         "ptr", "big", "line", "form", "fill", ";", "a", "b", "abcdefgh", "abcdefghi", "0", "1", "4", "5", "200", "255",
         "256", "300", "9999", "10000", ":", "A"};
@@ -11,7 +14,8 @@ public final class ModelTest {
     private static final int[] EDGES = {Integer.MIN_VALUE, -2, -1, 255, 256, 257, Integer.MAX_VALUE};
 
     private long seed;
-    private final GuestCalls x = new GuestCalls();
+    private final GuestCalls object = new GuestCalls();
+    private int calls;
     private final Model y = new Model();
     private String call;
 
@@ -32,17 +36,39 @@ public final class ModelTest {
         return (int) ((seed >>> 33) % n);
     }
 
+    private GuestCalls x() {
+        calls++;
+        return object;
+    }
+
     private void run() {
         if (below(8) > 0) {
             feed(goodText());
-            due("read()", x.read(), y.read());
+            due("read()", x().read(), y.read());
         }
-        for (int i = 0; i < CALLS; i++) {
+        while (calls < STEPS_END) {
             step();
-            due("why() behind " + call, x.why(), y.why());
-            due("count(9) behind " + call, x.count(9), y.count(9));
+            due("why() behind " + call, x().why(), y.why());
+            if (below(4) == 0) {
+                compareOne();
+            }
         }
-        compareAll();
+        lookAround();
+    }
+
+    private void compareOne() {
+        int what = below(12) - 1;
+        int r = below(10) - 1;
+        switch (below(4)) {
+            case 0:
+                due("place() behind " + call, x().place(), y.place());
+                break;
+            case 1:
+                due("register(" + r + ") behind " + call, x().register(r), y.register(r));
+                break;
+            default:
+                due("count(" + what + ") behind " + call, x().count(what), y.count(what));
+        }
     }
 
     private void due(String what, long got, long want) {
@@ -57,20 +83,16 @@ public final class ModelTest {
         call = text.toString();
     }
 
-    private void compareAll() {
+    // What there is at the end is more than the calls that are left: each run looks at another part of it.
+    private void lookAround() {
         call = "the end";
-        for (int i = -1; i <= 256; i++) {
-            due("byteAt " + i, x.byteAt(i), y.byteAt(i));
-        }
-        for (int i = -1; i <= 10; i++) {
-            due("register", x.register(i), y.register(i));
-            due("count " + i, x.count(i), y.count(i));
-        }
-        for (int b = 0; b < 8; b++) {
-            for (int i = 0; i < 40; i++) {
-                due("content", x.box(b, i, 0), y.box(b, i, 0));
-                due("told", x.box(b, i, 1), y.box(b, i, 1));
-            }
+        while (calls + 3 <= MOST_CALLS) {
+            int address = below(258) - 1;
+            due("byteAt " + address, x().byteAt(address), y.byteAt(address));
+            int b = below(8);
+            int i = below(below(4) == 0 ? 41 : 8) - 1;
+            due("content of " + b + ", " + i, x().box(b, i, 0), y.box(b, i, 0));
+            due("told of " + b + ", " + i, x().box(b, i, 1), y.box(b, i, 1));
         }
     }
 
@@ -82,10 +104,10 @@ public final class ModelTest {
             for (int i = 0; i < 20; i++) {
                 fours[i / 4] = fours[i / 4] << 8 | (at + i < text.length() ? text.charAt(at + i) : 32);
             }
-            due("feed", x.feed(fours[0], fours[1], fours[2], fours[3], fours[4]), y.feed(fours));
+            due("feed", x().feed(fours[0], fours[1], fours[2], fours[3], fours[4]), y.feed(fours));
         }
         int rest = (20 - text.length() % 20) % 20;
-        due("back", x.back(rest), y.back(rest));
+        due("back", x().back(rest), y.back(rest));
     }
 
     private String goodText() {
@@ -186,8 +208,8 @@ public final class ModelTest {
         int a = address();
         int v = byteValue();
         named("poke", a, v);
-        due(call, x.poke(a, v) ? 1 : 0, y.poke(a, v));
-        due("byteAt " + a, x.byteAt(a), y.byteAt(a));
+        due(call, x().poke(a, v) ? 1 : 0, y.poke(a, v));
+        due("byteAt " + a, x().byteAt(a), y.byteAt(a));
     }
 
     private void rowStep() {
@@ -199,29 +221,29 @@ public final class ModelTest {
             case 0:
                 int sort = sort();
                 named("bin", b, sort, i);
-                due(call, x.bin(b, sort, i) ? 1 : 0, y.bin(b, sort, i));
+                due(call, x().bin(b, sort, i) ? 1 : 0, y.bin(b, sort, i));
                 break;
             case 1:
                 named("length", b);
-                due(call, x.length(b), y.length(b));
+                due(call, x().length(b), y.length(b));
                 break;
             case 2:
                 named("cell", b, i, k);
-                due(call, x.cell(b, i, k), y.cell(b, i, k));
+                due(call, x().cell(b, i, k), y.cell(b, i, k));
                 break;
             case 3:
                 named("write", b, i, k, (int) v);
-                due(call, x.write(b, i, k, v) ? 1 : 0, y.write(b, i, k, v));
+                due(call, x().write(b, i, k, v) ? 1 : 0, y.write(b, i, k, v));
                 break;
             case 4:
                 int what = below(30) == 0 ? below(4) - 1 : below(2);
                 named("box", b, i, what);
-                due(call, x.box(b, i, what), y.box(b, i, what));
+                due(call, x().box(b, i, what), y.box(b, i, what));
                 break;
             default:
                 int content = below(13) - 1;
                 named("put", b, i, content, (int) v);
-                due(call, x.put(b, i, content, v) ? 1 : 0, y.put(b, i, content, v));
+                due(call, x().put(b, i, content, v) ? 1 : 0, y.put(b, i, content, v));
         }
     }
 
@@ -235,15 +257,15 @@ public final class ModelTest {
         switch (below(3)) {
             case 0:
                 named("copy", b, i, to, j, n, k);
-                due(call, x.copy(b, i, to, j, n, k), y.copy(b, i, to, j, n, k));
+                due(call, x().copy(b, i, to, j, n, k), y.copy(b, i, to, j, n, k));
                 break;
             case 1:
                 named("paste", b, i, to, j, n);
-                due(call, x.paste(b, i, to, j, n) ? 1 : 0, y.paste(b, i, to, j, n));
+                due(call, x().paste(b, i, to, j, n) ? 1 : 0, y.paste(b, i, to, j, n));
                 break;
             default:
                 named("unlike", b, to);
-                due(call, x.unlike(b, to), y.unlike(b, to));
+                due(call, x().unlike(b, to), y.unlike(b, to));
         }
     }
 
@@ -258,24 +280,24 @@ public final class ModelTest {
         switch (below(7)) {
             case 0:
                 named("layout", form, yes ? 1 : 0, m, what);
-                due(call, x.layout(form, yes, m, what), y.layout(form, yes, m, what));
+                due(call, x().layout(form, yes, m, what), y.layout(form, yes, m, what));
                 break;
             case 1:
                 int c = below(36) - 1;
                 named("argument", form, c, what);
-                due(call, x.argument(form, c, what), y.argument(form, c, what));
+                due(call, x().argument(form, c, what), y.argument(form, c, what));
                 break;
             case 2: case 3:
                 named("load", form, a, b);
-                due(call, x.load(form, a, b), y.load(form, a, b));
+                due(call, x().load(form, a, b), y.load(form, a, b));
                 break;
             case 4:
                 named("store", form, b, a);
-                due(call, x.store(form, b, a), y.store(form, b, a));
+                due(call, x().store(form, b, a), y.store(form, b, a));
                 break;
             default:
                 named("turn", form, a, to, yes ? 1 : 0);
-                due(call, x.turn(form, a, to, yes), y.turn(form, a, to, yes));
+                due(call, x().turn(form, a, to, yes), y.turn(form, a, to, yes));
         }
     }
 
@@ -286,15 +308,15 @@ public final class ModelTest {
         boolean yes = below(2) == 0;
         for (int i = 0; i < 8 * n && below(3) > 0 && y.count(2) == 0; i++) {
             int v = i % 4 == 0 ? below(i % 8 == 0 ? 200 : 8) : 0;
-            due("poke", x.poke(a + i, v) ? 1 : 0, y.poke(a + i, v));
+            due("poke", x().poke(a + i, v) ? 1 : 0, y.poke(a + i, v));
         }
         if (below(2) == 0) {
             int what = below(20) == 0 ? below(5) - 1 : below(3);
             named("list", a, n, what);
-            due(call, x.list(a, n, what), y.list(a, n, what));
+            due(call, x().list(a, n, what), y.list(a, n, what));
         } else {
             named("move", a, n, to, yes ? 1 : 0);
-            due(call, x.move(a, n, to, yes), y.move(a, n, to, yes));
+            due(call, x().move(a, n, to, yes), y.move(a, n, to, yes));
         }
     }
 
@@ -305,28 +327,28 @@ public final class ModelTest {
         switch (below(9)) {
             case 0: case 1:
                 named("sets", r);
-                due(call, x.sets(r, v) ? 1 : 0, y.sets(r, v));
-                due("register", x.register(r), y.register(r));
+                due(call, x().sets(r, v) ? 1 : 0, y.sets(r, v));
+                due("register", x().register(r), y.register(r));
                 break;
             case 2: case 3:
                 named("frame");
-                due(call, x.frame(), y.frame());
+                due(call, x().frame(), y.frame());
                 break;
             case 4:
                 named("returns");
-                due(call, x.returns(), y.returns());
+                due(call, x().returns(), y.returns());
                 break;
             case 5:
                 named("hold", slot);
-                due(call, x.hold(slot) ? 1 : 0, y.hold(slot));
+                due(call, x().hold(slot) ? 1 : 0, y.hold(slot));
                 break;
             case 6:
                 named("restore", slot);
-                due(call, x.restore(slot) ? 1 : 0, y.restore(slot));
+                due(call, x().restore(slot) ? 1 : 0, y.restore(slot));
                 break;
             case 7:
                 named("count", r + 1);
-                due(call, x.count(r + 1), y.count(r + 1));
+                due(call, x().count(r + 1), y.count(r + 1));
                 break;
             default:
                 textStep();
@@ -338,11 +360,17 @@ public final class ModelTest {
         call = "read() of " + text;
         feed(text);
         // Texts without FAULT begin anew; most are passed by, so that the run goes on.
-        if (below(4) == 0) {
-            due(call, x.read(), y.read());
-            due("place() behind " + call, x.place(), y.place());
-        } else {
-            due("back", x.back(text.length()), y.back(text.length()));
+        switch (below(8)) {
+            case 0: case 1:
+                due(call, x().read(), y.read());
+                due("place() behind " + call, x().place(), y.place());
+                break;
+            case 2:
+                int part = below(text.length() + 2) - 1;
+                due("back " + part, x().back(part), y.back(part));
+                break;
+            default:
+                due("back", x().back(text.length()), y.back(text.length()));
         }
     }
 }
