@@ -137,6 +137,15 @@ final class TextSentences {
         Check.fault("fill 0 1 00002;", 1, 9);
         Check.fault("big;!", 1, 4);
         Check.fault("big;" + (char) 0, 1, 4);
+        String[] starts = {"", "big", "line ", "line 5", "form ", "form a ", "form a int", "form a int 2", "fill ", "fill 3 ",
+            "fill 3 4"};
+        for (int sign = 0; sign < 256; sign++) {
+            if ("\t\n\r ;0123456789".indexOf(sign) < 0 && (sign < 'a' || sign > 'z')) {
+                for (String start : starts) {
+                    Check.fault(start + (char) sign + " 4;", 1, start.length());
+                }
+            }
+        }
     }
 
     private static void noTell() {
